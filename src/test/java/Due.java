@@ -1,14 +1,20 @@
 /** What the tests share: an answer is held against the one that is due. */
 final class Due {
     private static int wrong = 0;
+    private static String sentence = "";
 
     private Due() {
+    }
+
+    /** The document's sentence that the next answers stand for; a wrong answer tells it. */
+    static void sentence(String words) {
+        sentence = "[" + words + "] ";
     }
 
     static void is(String call, long got, long want) {
         if (got != want) {
             wrong++;
-            System.out.println(call + " answered " + got + ", due is " + want);
+            System.out.println(sentence + call + " answered " + got + ", due is " + want);
         }
     }
 

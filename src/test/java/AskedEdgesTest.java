@@ -332,6 +332,8 @@ public final class AskedEdgesTest {
         Due.sentence("MARRIED: .. (each in one at most) .. one of most twos");
         way("married", "p0 0 0;p1 0 0;p1 0 0;p2 0 0;q0 2;q2 3;", 1, 1, 0, -9, -9);
         way("married", "p0 0 0;p1 0 0;p2 0 0;p3 0 0;q1 2;q2 3;", 2, 2, 3, 0, 1);
+        // By 0 and 1 there were two twos only, as three of the others have one name.
+        way("married", "p0 0 0;p1 0 0;p2 0 0;p2 0 0;p2 0 0;p3 0 0;", 3, 2, 3, 0, 1, 5, 4);
         way("married", "p0 0 0;p0 0 0;p0 0 0;p1 0 0;p1 0 0;p1 0 0;p1 0 0;", 3, 3, 4, 5, 0, 1, 2, -9, -1);
         way("married", "p0 0 0;p0 0 0;p0 0 0;p0 0 0;p0 0 0;p1 0 0;p1 0 0;", 2, 5, 6, -9, -9, -9, 0, 1);
         way("married", "p0 0 0;p1 0 0;p2 0 0;p3 0 0;p0 0 0;p1 0 0;p2 0 0;", 3, 1, 0, 3, 2, 5, 4, -9);

@@ -41,6 +41,7 @@ public final class DoneEdgesTest {
         Due.sentence("HURT: PEOPLE (bits; nobody at first)");
         Run run = Run.told("p0 0 0;p1 0 0;").due(0, "now", 3).due(0, "person", 0, 3).due(0, "person", 1, 3);
         run.due(0, "hurts", 1, 1).due(0, "person", 0, 3).due(1, "person", 1, 3);
+        new Run().due(0, "now", 3).due(15, "laws", 14).due(0, "now", 3);
     }
 
     private static void limps() {

@@ -365,6 +365,7 @@ public final class TextEdgesTest {
         new Run().type(" ".repeat(199) + "x").due(-209, "republic");
         new Run().type("l" + " ".repeat(199)).due(-210, "republic");
         new Run().type(" ".repeat(199) + "l").due(-210, "republic");
+        new Run().type(" ".repeat(198) + "l1").due(-210, "republic");
     }
 
     private static void letters() {
@@ -380,6 +381,9 @@ public final class TextEdgesTest {
         new Run().due(0, "clear").type("l7;").due(3, "clear").due(0, "count", 4).due(0, "clear");
         new Run().type("x").due(1, "clear").type("l7;").due(1, "republic").due(7, "now", 2).due(0, "clear");
         new Run().type(" ".repeat(200)).due(200, "clear").type(" ".repeat(200)).due(200, "clear");
+        // Nothing of the text that was is behind the new one.
+        new Run().type("l15;").due(4, "clear").type("l1").due(-12, "republic").due(2, "clear").type("l").due(-11, "republic");
+        new Run().type("l15;").due(1, "republic").type("l1").due(-12, "republic").type(";").due(1, "republic").due(1, "now", 2);
     }
 
     private static void howManyItems() {

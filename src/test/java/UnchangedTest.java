@@ -28,8 +28,10 @@ public final class UnchangedTest {
             run.times(1, "year").times(1, "names", 2, 2).times(1, "laws", 13).times(1, "keep", 0);
             run.times(1, "deeds", 1).times(1, "earns", 1, 40).times(1, "hurts", 2, 1).times(1, "laws", 7);
             run.times(1, "names", 1, 1).times(1, "year").times(1, "rate", 3, 1);
-            run.times(3, "tells", 0, 1).times(1, "tells", 2, 1).times(2, "tells", 1, 1);
-            run.times(2, "record", 0, 1).times(1, "record", 3, 0).times(3, "record", 4, 0).type("n2;p1 7 1x;");
+            // All of it is so, lest a claim that came in its place could not be seen.
+            run.times(3, "tells", 0, 0).times(3, "tells", 1, 1);
+            run.times(2, "record", 0, 1).times(1, "record", 3, 0).times(3, "record", 4, 0).due(16, "which", 0);
+            run.type("n2;p1 7 1x;");
         } else if (how == FULL_TEXT) {
             run.anew("n2;p1 50 9;").type("n3;p2 8 4;p0 9 3;l5;").type(" ".repeat(180));
         }
@@ -169,8 +171,9 @@ public final class UnchangedTest {
         Due.sentence("Refused, and nothing changes: FULL");
         refused(FULL_TEXT, -3, "type", ';');
         refused(FULL_TEXT, -3, "type", 0);
-        refused(BUSY, -3, "tells", 0, 0);
-        refused(BUSY, -3, "tells", 2, 1);
+        refused(BUSY, -3, "tells", 0, 1);
+        refused(BUSY, -3, "tells", 1, 0);
+        refused(BUSY, -3, "tells", 2, 0);
         refused(BUSY, -3, "record", 0, 0);
         refused(BUSY, -3, "record", 4, 1);
     }
